@@ -240,6 +240,8 @@ public final class PromiseTest {
         due("moveWeight(1, 2, 2, 5)", x.moveWeight(1, 2, 2, 5), 5);
         due("moveWeight(1, 2, 0, 0)", x.moveWeight(1, 2, 0, 0), 7);
         due("editCount()", x.editCount(), 2);
+        due("moveWeight(2, 2, 1, 1)", x.moveWeight(2, 2, 1, 1), 1);
+        due("undo()", x.undo(), 2);
         due("moveWeight(0, 0, 1, 12)", x.moveWeight(0, 0, 1, 12), 12);
         due("moveWeight(0, 1, 0, 13)", x.moveWeight(0, 1, 0, 13), BAD);
         due("moveWeight(0, 1, 0, -1)", x.moveWeight(0, 1, 0, -1), BAD);
@@ -506,7 +508,13 @@ public final class PromiseTest {
             }
         }
         due("distributionDistance(1, 1, 3)", x.distributionDistance(1, 1, 3), 9);
-        due("distributionDistance(1, 1, 0)", x.distributionDistance(1, 1, 0), 0);
+        for (int kind = 0; kind < 3; kind++) {
+            due("distributionDistance(1, 1, " + kind + ")", x.distributionDistance(1, 1, kind), 0);
+        }
+        x.reset(6, 12);
+        due("distributionDistance(0, 5, 2)", x.distributionDistance(0, 5, 2), 60);
+        due("distributionDistance(5, 5, 3)", x.distributionDistance(5, 5, 3), 12);
+        x.reset(4, 9);
         due("distributionDistance(4, 0, 9)", x.distributionDistance(4, 0, 9), NO_STATE);
         due("distributionDistance(0, 4, -1)", x.distributionDistance(0, 4, -1), NO_STATE);
         due("distributionDistance(-1, 0, 0)", x.distributionDistance(-1, 0, 0), NO_STATE);
@@ -773,6 +781,7 @@ public final class PromiseTest {
             due(text, parsed(text), -8);
         }
         due("malformed and inconsistent", parsed("0:9,0>9;"), -1008);
+        due("the greatest numbers", parsed("99:9,99>9;9,99>9;9,99>9;9,99>9;9,99>9;9,99>9"), -8);
     }
 
     private static void malformed(String text, int position) {
@@ -809,7 +818,11 @@ public final class PromiseTest {
         due("release(-1)", x.release(-1), BAD);
         promise = 31;
         x.allocate(0, 0, 2);
-        due("a new array is filled with 0: element(0, 1)", x.element(0, 1), 0);
+        row(x, 0, 0, 0);
+        x.putElement(0, 0, 7);
+        x.putElement(0, 1, 8);
+        x.allocate(0, 3, 2);
+        row(x, 0, 0, 0);
     }
 
     private static void elements() {
