@@ -172,7 +172,10 @@ final class ChainEdges {
     private void setDiscount() {
         document.promise(9, "Sets the discount.",
                 "read('1:0,1>1;1,1>1;0,1>2'): 3; distance(2, 0, 2): 1/1; setDiscount(3, 4): 1; distance(2, 0, 2): 3/4;"
-                + " setDiscount(0, 1): 1; distance(2, 0, 2): 0/1");
+                + " setDiscount(0, 1): 1; distance(2, 0, 2): 0/1",
+                // one part of it alone
+                "read('1:0,1>1;1,1>1;0,1>2'): 3; distance(2, 0, 2): 1/1; setDiscount(1, 4): 1; distance(2, 0, 2): 1/4;"
+                + " setDiscount(3, 4): 1; distance(2, 0, 2): 3/4; undo(): 1; distance(2, 0, 2): 1/4; undo(): 0; distance(2, 0, 2): 1/1");
         document.promise(9, "- `numerator`: the numerator p, 0 to the denominator",
                 "setDiscount(-1, 1): BAD_ARGUMENT; setDiscount(0, 1): 1; setDiscount(1, 1): 1; setDiscount(2, 1): BAD_ARGUMENT",
                 "setDiscount(-1, 2): BAD_ARGUMENT; setDiscount(0, 2): 1; setDiscount(2, 2): 1; setDiscount(3, 2): BAD_ARGUMENT",

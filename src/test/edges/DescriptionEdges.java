@@ -84,14 +84,25 @@ final class DescriptionEdges {
         document.description("An optimal coupling has the minimum cost.", """
                 read('4:0,2>0,2>2;0,2>0,2>2;1,4>2'): 3; wholeCoupling(1, 1): 2,0,0,0,0,0,0,0,2;
                 distance(2, 0, 1): 0/1; distance(9, 0, 1): 0/1
-                """);
+                """,
+                // all the couplings of these chains have been weighed by another program
+                "read('3:1,3>2;2,3>2;1,1>1,2>2;1,1>0,2>3'): 4; wholeCoupling(3, 23): 0,0,0,0,0,0,0,1,1,0,0,1,0,0,0,0;"
+                + " distance(4, 2, 3): 17/27; wholeCoupling(3, 32): 0,0,1,0,0,0,0,0,0,0,0,0,0,1,1,0; distance(4, 3, 2): 17/27",
+                "read('3:0,1>0,2>3;0,2>2,1>3;1,3>3;0,2>0,1>1'): 4; wholeCoupling(3, 3): 1,0,0,0,0,0,0,0,0,0,0,0,1,1,0,0;"
+                + " distance(4, 0, 3): 8/27");
         document.description("There can be several; the canonical optimal coupling is the one whose entries, read row by"
                 + " row, form the lexicographically smallest sequence.",
                 "read('4:0,2>0,2>1;0,2>0,2>1'): 2; wholeCoupling(0, 1): 0,2,2,0; wholeCoupling(5, 1): 0,2,2,0",
                 "read('3:0,1>0,1>1,1>2;0,1>0,1>1,1>2;1,3>2'): 3; wholeCoupling(0, 1): 0,0,1,0,1,0,1,0,0;"
                 + " wholeCoupling(1, 1): 0,1,0,1,0,0,0,0,1; wholeCoupling(1, 0): 0,1,0,1,0,0,0,0,1",
                 "read('6:0,3>0,3>1;1,1>0,2>1,3>2;2,6>0'): 3; wholeCoupling(0, 1): 0,0,3,1,2,0,0,0,0;"
-                + " wholeCoupling(1, 1): 1,0,2,0,2,1,0,0,0; wholeCoupling(1, 10): 1,0,0,0,2,0,2,1,0");
+                + " wholeCoupling(1, 1): 1,0,2,0,2,1,0,0,0; wholeCoupling(1, 10): 1,0,0,0,2,0,2,1,0",
+                // all the couplings of these chains have been weighed by another program
+                "read('2:0,1>0,1>2;1,1>0,1>1;0,2>1'): 3; wholeCoupling(1, 1): 0,1,0,0,0,0,1,0,0",
+                "read('2:0,2>1;1,1>0,1>3;0,1>1,1>2;1,2>0'): 4; wholeCoupling(1, 21): 0,0,0,0,0,0,0,1,1,0,0,0,0,0,0,0",
+                "read('2:1,1>1,1>2;2,1>0,1>2;2,1>1,1>3;1,2>2'): 4; wholeCoupling(2, 0): 0,0,0,0,0,0,1,0,0,1,0,0,0,0,0,0",
+                "read('5:1,2>1,2>2,1>3;0,2>0,2>2,1>3;0,1>0,1>1,3>3;1,2>0,3>3'): 4;"
+                + " wholeCoupling(1, 1): 0,0,0,0,0,0,1,1,1,0,1,0,1,0,0,0");
     }
 
     private void distances() {
